@@ -1,0 +1,84 @@
+/** Counts the answers that are not as due, prints them, and ends the test with an exit code. */
+final class Check {
+    interface Call {
+        Object run();
+    }
+
+    private int asked = 0;
+    private int wrong = 0;
+    private String promise = "";
+
+    /** Names the promise that the next checks belong to. */
+    void promise(String name) {
+        promise = name;
+    }
+
+    void same(String what, long due, long got) {
+        asked++;
+        if (due != got) {
+            tell(what + " answered " + got + ", due is " + due);
+        }
+    }
+
+    void same(String what, boolean due, boolean got) {
+        asked++;
+        if (due != got) {
+            tell(what + " answered " + got + ", due is " + due);
+        }
+    }
+
+    void sameDouble(String what, double due, double got) {
+        asked++;
+        if (Double.doubleToLongBits(due) != Double.doubleToLongBits(got)) {
+            tell(what + " answered " + got + ", due is " + due);
+        }
+    }
+
+    void sameText(String what, String due, String got) {
+        asked++;
+        if (!due.equals(got)) {
+            tell(what + " answered " + got + ", due is " + due);
+        }
+    }
+
+    /** The class must be this one itself: the machine throws classes below it. */
+    void fails(String what, Class<? extends RuntimeException> due, Call call) {
+        sameText(what, due.getSimpleName(), outcome(call));
+    }
+
+    void index(String what, Call call) {
+        fails(what, IndexOutOfBoundsException.class, call);
+    }
+
+    void argument(String what, Call call) {
+        fails(what, IllegalArgumentException.class, call);
+    }
+
+    void state(String what, Call call) {
+        fails(what, IllegalStateException.class, call);
+    }
+
+    /** The answer of a call as a text, or the name of the class that it throws. */
+    static String outcome(Call call) {
+        try {
+            return String.valueOf(call.run());
+        } catch (RuntimeException e) {
+            return e.getClass().getSimpleName();
+        }
+    }
+
+    private void tell(String text) {
+        wrong++;
+        System.out.println(promise + ": " + text);
+    }
+
+    void end() {
+        if (asked == 0) {
+            tell("nothing was checked");
+        }
+        if (wrong > 0) {
+            System.out.println(wrong + " of " + asked + " checks failed");
+            System.exit(1);
+        }
+    }
+}
