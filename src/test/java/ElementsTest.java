@@ -189,6 +189,15 @@ public final class ElementsTest {
         }
         x.addNote(0, 8, 0, 1, 0, 4, false);
         CHECK.same("the voice goes on from the tick 0", 0, x.element(0, 0, 0));
+        x.addNote(0, 8, 0, 0, 2, 3, true);
+        CHECK.same("the least tone", 38, x.voice(0, 6));
+        x.removeLast(0);
+        CHECK.same("the least tone without it", 50, x.voice(0, 6));
+        x.addRest(0, 8, 0);
+        CHECK.same("a rest in its place is not tied", 0, x.element(0, 1, 5));
+        CHECK.same("a rest in its place shows no sign", 0, x.element(0, 1, 7));
+        CHECK.same("a rest in its place has no tone", -1, x.element(0, 1, 4));
+        CHECK.same("a rest in its place has no beam", -1, x.element(0, 1, 8));
     }
 
     private static void tie() {

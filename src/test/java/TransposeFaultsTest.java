@@ -93,6 +93,9 @@ public final class TransposeFaultsTest {
         x.removeLast(1);
         x.addRest(0, 4, 0);
         CHECK.same("rests can be transposed by all", 2, x.transpose(14, 24));
+        x.addNote(0, 4, 0, 0, 0, 0, false);
+        x.removeLast(0);
+        CHECK.same("what was removed keeps nothing back", 2, x.transpose(-14, -24));
         // A fifth up and an octave down: many steps, the signs that the key asks for.
         CHECK.same("a fifth up, an octave down", 3, x.transpose(-3, -5));
     }
@@ -183,12 +186,30 @@ public final class TransposeFaultsTest {
         quarter(x, 0, 2, 4);
         quarter(x, 1, 6, 3); // 0 to 7
         CHECK.same("octave to fifth; the bar is filled", 3, x.faults());
+        parallelLeaps();
         ScorePress y = withVoices(2);
         quarter(y, 0, 0, 4);
         quarter(y, 1, 3, 4);
         quarter(y, 0, 1, 4);
         quarter(y, 1, 4, 4); // fourths are no fault
         CHECK.same("fourths", 2, y.faults());
+    }
+
+    /** One voice leaps an octave, so that the distance stays the same, and the other one stays. */
+    private static void parallelLeaps() {
+        ScorePress x = withVoices(2);
+        int[][] octaves = {{4, 4}, {5, 4}, {4, 4}, {4, 5}, {4, 4}, {5, 3}, {4, 4}};
+        for (int[] o : octaves) {
+            quarter(x, 0, 0, o[0]);
+            quarter(x, 1, 4, o[1]);
+        }
+        CHECK.same("octaves leapt by one voice alone, or apart", 2, x.faults());
+        quarter(x, 0, 0, 5);
+        quarter(x, 1, 4, 5);
+        CHECK.same("an octave leapt by both upwards", 1, x.faults());
+        quarter(x, 0, 0, 2);
+        quarter(x, 1, 4, 4);
+        CHECK.same("leapt by both downwards, too, in a new bar", 1 + 1 + 2, x.faults());
     }
 
     private static void parallelsOfTiesAndRests() {
