@@ -58,6 +58,15 @@ final class Check {
         fails(what, IllegalStateException.class, call);
     }
 
+    /** A new score with voices without elements. */
+    static ScorePress withVoices(int count) {
+        ScorePress x = new ScorePress();
+        for (int v = 0; v < count; v++) {
+            x.addVoice();
+        }
+        return x;
+    }
+
     /** The answer of a call as a text, or the name of the class that it throws. */
     static String outcome(Call call) {
         try {

@@ -2,14 +2,6 @@
 public final class ElementsTest {
     private static final Check CHECK = new Check();
 
-    private static ScorePress withVoices(int count) {
-        ScorePress x = new ScorePress();
-        for (int v = 0; v < count; v++) {
-            x.addVoice();
-        }
-        return x;
-    }
-
     /** Asks one number of all elements of the voice 0. */
     private static void row(ScorePress x, String name, int what, int... due) {
         CHECK.same("elements of the voice", due.length, x.voice(0, 0));
@@ -20,7 +12,7 @@ public final class ElementsTest {
 
     private static void addNote() {
         CHECK.promise("Promise 8");
-        ScorePress x = withVoices(2);
+        ScorePress x = Check.withVoices(2);
         CHECK.same("a note up to the bar's end", 1, x.addNote(0, 1, 0, 0, 0, 4, true));
         CHECK.same("a note in its bar", 1, x.addNote(0, 2, 2, 6, -1, 4, false));
         CHECK.same("the voice 1 stays empty", 0, x.voice(1, 0));
@@ -43,7 +35,7 @@ public final class ElementsTest {
     }
 
     private static void cutPieces() {
-        ScorePress x = withVoices(1);
+        ScorePress x = Check.withVoices(1);
         x.setBars(1, 8);
         x.addRest(0, 32, 0);
         CHECK.same("cut in bars of 48", 3, x.addNote(0, 4, 0, 1, 0, 4, true));
@@ -51,20 +43,20 @@ public final class ElementsTest {
         row(x, "parts", 2, 32, 16, 8, 32);
         row(x, "dots", 3, 0, 1, 0, 0);
         row(x, "tied", 5, 0, 1, 1, 1);
-        ScorePress y = withVoices(1);
+        ScorePress y = Check.withVoices(1);
         // 12 * 48 = 576 ticks: a whole note with a dot fits exactly, one with two dots does not.
         y.setBars(12, 8);
         CHECK.same("a bar filled by one element", 1, y.addNote(0, 1, 1, 0, 0, 4, false));
         CHECK.same("a bar and 96", 2, y.addNote(0, 1, 2, 0, 0, 4, false));
         row(y, "ticks", 1, 576, 576, 96);
-        ScorePress z = withVoices(1);
+        ScorePress z = Check.withVoices(1);
         z.setBars(5, 4);
         z.addRest(0, 2, 0);
         z.addRest(0, 16, 0);
         // 264 of 480 are left in the bar: 192 and 72; then 312: 288 and 24.
         CHECK.same("greatest values, with their dots", 4, z.addNote(0, 1, 1, 0, 0, 4, false));
         row(z, "ticks", 1, 192, 24, 192, 72, 288, 24);
-        ScorePress w = withVoices(1);
+        ScorePress w = Check.withVoices(1);
         w.setBars(5, 8);
         // 240 in a bar: 192 and 48; then 144 as one value with a dot.
         CHECK.same("pieces ahead of the bar's end", 3, w.addNote(0, 1, 0, 0, 0, 4, false));
@@ -73,7 +65,7 @@ public final class ElementsTest {
     }
 
     private static void wrongNotes() {
-        ScorePress x = withVoices(1);
+        ScorePress x = Check.withVoices(1);
         long before = x.digest();
         int[] voices = {-1, 1, 4, Integer.MIN_VALUE, Integer.MAX_VALUE};
         for (int v : voices) {
@@ -101,7 +93,7 @@ public final class ElementsTest {
     }
 
     private static void limits() {
-        ScorePress x = withVoices(2);
+        ScorePress x = Check.withVoices(2);
         for (int i = 0; i < 199; i++) {
             x.addNote(0, 32, 0, i % 7, 0, 4, false);
         }
@@ -116,7 +108,7 @@ public final class ElementsTest {
         CHECK.same("200 elements", 200, x.voice(0, 0));
         CHECK.same("another voice has room", 1, x.addNote(1, 4, 0, 0, 0, 4, false));
 
-        ScorePress y = withVoices(1);
+        ScorePress y = Check.withVoices(1);
         for (int bar = 0; bar < 99; bar++) {
             y.addNote(0, 1, 0, 0, 0, 4, false);
         }
@@ -131,7 +123,7 @@ public final class ElementsTest {
 
     private static void addRest() {
         CHECK.promise("Promise 9");
-        ScorePress x = withVoices(1);
+        ScorePress x = Check.withVoices(1);
         x.setBars(3, 8);
         CHECK.same("a rest", 1, x.addRest(0, 8, 0));
         CHECK.same("a rest that is cut", 3, x.addRest(0, 2, 1));
@@ -154,7 +146,7 @@ public final class ElementsTest {
         }
         CHECK.state("more than 200 elements", () -> x.addRest(0, 32, 0));
         CHECK.argument("no value comes first", () -> x.addRest(0, 32, 1));
-        ScorePress y = withVoices(1);
+        ScorePress y = Check.withVoices(1);
         y.setBars(1, 2);
         for (int bar = 0; bar < 100; bar++) {
             y.addRest(0, 2, 0);
@@ -168,7 +160,7 @@ public final class ElementsTest {
 
     private static void removeLast() {
         CHECK.promise("Promise 10");
-        ScorePress x = withVoices(2);
+        ScorePress x = Check.withVoices(2);
         x.addNote(0, 4, 0, 0, 1, 4, true);
         x.addNote(0, 1, 0, 0, 1, 4, true);
         x.addRest(1, 4, 0);
@@ -202,7 +194,7 @@ public final class ElementsTest {
 
     private static void tie() {
         CHECK.promise("Promise 11");
-        ScorePress x = withVoices(1);
+        ScorePress x = Check.withVoices(1);
         x.addNote(0, 4, 0, 0, 0, 4, false);
         x.addNote(0, 4, 0, 0, 0, 4, true);
         x.addRest(0, 4, 0);
@@ -229,7 +221,7 @@ public final class ElementsTest {
 
     private static void element() {
         CHECK.promise("Promise 12");
-        ScorePress x = withVoices(1);
+        ScorePress x = Check.withVoices(1);
         x.addNote(0, 8, 2, 4, 1, 3, true);
         x.addRest(0, 32, 0);
         int[][] due = {{0, 84, 8, 2, 44, 1, 0, 1, -1}, {84, 12, 32, 0, -1, 0, 0, 0, -1}};
@@ -253,7 +245,7 @@ public final class ElementsTest {
     }
 
     private static void shownSigns() {
-        ScorePress x = withVoices(1);
+        ScorePress x = Check.withVoices(1);
         x.setKey(1);
         x.addNote(0, 4, 0, 3, 1, 4, false); // the key's sign
         x.addNote(0, 4, 0, 3, 0, 4, false); // another one
@@ -272,7 +264,7 @@ public final class ElementsTest {
     }
 
     private static void joinedSigns() {
-        ScorePress x = withVoices(1);
+        ScorePress x = Check.withVoices(1);
         x.addNote(0, 2, 1, 0, 0, 4, false);
         x.addNote(0, 2, 0, 0, 1, 4, true); // 96 ticks, and 96 in the next bar, joined
         x.addNote(0, 8, 0, 1, -1, 4, false); // joined, too: the same tone by another step
@@ -285,7 +277,7 @@ public final class ElementsTest {
     }
 
     private static void beams() {
-        ScorePress x = withVoices(1);
+        ScorePress x = Check.withVoices(1);
         x.addNote(0, 8, 0, 0, 0, 4, false);
         x.addNote(0, 8, 0, 0, 0, 4, false);
         x.addNote(0, 8, 0, 0, 0, 4, false); // alone in its beat, with a rest
@@ -310,7 +302,7 @@ public final class ElementsTest {
     }
 
     private static void beamsByBeat() {
-        ScorePress x = withVoices(1);
+        ScorePress x = Check.withVoices(1);
         x.setBars(3, 8); // beats of 48
         for (int i = 0; i < 4; i++) {
             x.addNote(0, 8, 0, 0, 0, 4, false);
@@ -318,13 +310,13 @@ public final class ElementsTest {
         x.addNote(0, 16, 0, 0, 0, 4, false);
         x.addNote(0, 16, 0, 0, 0, 4, false);
         row(x, "beams in beats of 48", 8, -1, -1, -1, -1, 0, 0);
-        ScorePress y = withVoices(1);
+        ScorePress y = Check.withVoices(1);
         y.setBars(1, 2); // beats of 192, one in a bar
         for (int i = 0; i < 6; i++) {
             y.addNote(0, 8, 0, 0, 0, 4, true);
         }
         row(y, "beams in bars of one beat", 8, 0, 0, 0, 0, 1, 1);
-        ScorePress z = withVoices(1);
+        ScorePress z = Check.withVoices(1);
         z.setBars(2, 2);
         z.addNote(0, 8, 0, 0, 0, 4, false);
         z.addNote(0, 4, 0, 0, 0, 4, false); // parts two groups in one beat
@@ -335,7 +327,7 @@ public final class ElementsTest {
 
     private static void pitch() {
         CHECK.promise("Promise 13");
-        ScorePress x = withVoices(1);
+        ScorePress x = Check.withVoices(1);
         x.addNote(0, 4, 0, 6, -2, 0, false);
         x.addNote(0, 1, 0, 2, 2, 8, false);
         x.addRest(0, 4, 0);
@@ -361,7 +353,7 @@ public final class ElementsTest {
 
     private static void voice() {
         CHECK.promise("Promise 14");
-        ScorePress x = withVoices(2);
+        ScorePress x = Check.withVoices(2);
         x.addNote(0, 8, 0, 0, 1, 4, true);
         x.addNote(0, 8, 0, 1, -1, 4, true); // joined: the same tone
         x.addNote(0, 8, 0, 1, 0, 4, true); // not joined, and its sign is another one
@@ -391,7 +383,7 @@ public final class ElementsTest {
     }
 
     private static void joins() {
-        ScorePress x = withVoices(1);
+        ScorePress x = Check.withVoices(1);
         x.addNote(0, 4, 0, 0, 0, 4, true);
         x.addRest(0, 4, 0); // tied to a rest
         x.addNote(0, 4, 0, 0, 0, 4, true);

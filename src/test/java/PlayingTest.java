@@ -2,16 +2,8 @@
 public final class PlayingTest {
     private static final Check CHECK = new Check();
 
-    private static ScorePress withVoices(int count) {
-        ScorePress x = new ScorePress();
-        for (int v = 0; v < count; v++) {
-            x.addVoice();
-        }
-        return x;
-    }
-
     private static ScorePress twoVoices() {
-        ScorePress x = withVoices(2);
+        ScorePress x = Check.withVoices(2);
         x.addNote(0, 4, 0, 0, 0, 4, false);
         x.addNote(0, 4, 0, 0, 1, 4, true);
         x.addNote(0, 4, 0, 1, -1, 4, false);
@@ -62,7 +54,7 @@ public final class PlayingTest {
     }
 
     private static void fullScore() {
-        ScorePress x = withVoices(4);
+        ScorePress x = Check.withVoices(4);
         for (int i = 0; i < 120; i++) {
             for (int v = 0; v < 4; v++) {
                 x.addNote(v, 32, 0, v, 0, 4, false);
@@ -79,7 +71,7 @@ public final class PlayingTest {
 
     private static void events() {
         CHECK.promise("Promise 19");
-        ScorePress x = withVoices(1);
+        ScorePress x = Check.withVoices(1);
         CHECK.same("no elements", 0, x.events());
         x.addRest(0, 4, 0);
         CHECK.same("a rest", 0, x.events());
@@ -114,7 +106,7 @@ public final class PlayingTest {
 
     private static void meanTone() {
         CHECK.promise("Promise 21");
-        ScorePress x = withVoices(2);
+        ScorePress x = Check.withVoices(2);
         CHECK.sameDouble("no elements", 0.0, x.meanTone());
         x.addRest(0, 4, 0);
         CHECK.sameDouble("a rest", 0.0, x.meanTone());
@@ -137,7 +129,7 @@ public final class PlayingTest {
         CHECK.promise("Promise 22");
         long empty = add(389, 0, 384, 0, 0, 0, 0, 0);
         CHECK.same("digest() of an empty score", empty, new ScorePress().digest());
-        ScorePress x = withVoices(2);
+        ScorePress x = Check.withVoices(2);
         x.setKey(-1);
         x.addNote(0, 2, 0, 6, 0, 4, true);
         x.addRest(1, 4, 0);

@@ -2,14 +2,6 @@
 public final class TransposeFaultsTest {
     private static final Check CHECK = new Check();
 
-    private static ScorePress withVoices(int count) {
-        ScorePress x = new ScorePress();
-        for (int v = 0; v < count; v++) {
-            x.addVoice();
-        }
-        return x;
-    }
-
     /** Adds a note of a part 4; pitches of steps without signs. */
     private static void quarter(ScorePress x, int voice, int step, int octave) {
         x.addNote(voice, 4, 0, step, 0, octave, false);
@@ -24,7 +16,7 @@ public final class TransposeFaultsTest {
 
     private static void transpose() {
         CHECK.promise("Promise 15");
-        ScorePress x = withVoices(2);
+        ScorePress x = Check.withVoices(2);
         x.addNote(0, 4, 0, 6, 0, 4, true);
         x.addRest(0, 4, 0);
         x.addNote(1, 1, 1, 2, -1, 3, false);
@@ -54,7 +46,7 @@ public final class TransposeFaultsTest {
     }
 
     private static void wrongTransposing() {
-        ScorePress x = withVoices(2);
+        ScorePress x = Check.withVoices(2);
         x.addNote(0, 4, 0, 1, 0, 0, false);
         x.addNote(1, 4, 0, 6, 1, 8, false);
         long before = x.digest();
@@ -127,7 +119,7 @@ public final class TransposeFaultsTest {
     }
 
     private static void barsNotFilled() {
-        ScorePress x = withVoices(3);
+        ScorePress x = Check.withVoices(3);
         CHECK.same("no bars", 0, x.faults());
         x.addRest(0, 32, 0);
         CHECK.same("one bar, not filled by three voices", 3, x.faults());
@@ -144,7 +136,7 @@ public final class TransposeFaultsTest {
     }
 
     private static void looseTies() {
-        ScorePress x = withVoices(1);
+        ScorePress x = Check.withVoices(1);
         x.addNote(0, 4, 0, 0, 0, 4, true);
         CHECK.same("a tied note at the end", 2, x.faults());
         x.addNote(0, 4, 0, 0, 0, 4, true);
@@ -161,7 +153,7 @@ public final class TransposeFaultsTest {
     }
 
     private static void parallels() {
-        ScorePress x = withVoices(2);
+        ScorePress x = Check.withVoices(2);
         quarter(x, 0, 0, 4);
         quarter(x, 1, 4, 4); // C G: a fifth, the first tick
         CHECK.same("the first pair", 2, x.faults());
@@ -187,7 +179,7 @@ public final class TransposeFaultsTest {
         quarter(x, 1, 6, 3); // 0 to 7
         CHECK.same("octave to fifth; the bar is filled", 3, x.faults());
         parallelLeaps();
-        ScorePress y = withVoices(2);
+        ScorePress y = Check.withVoices(2);
         quarter(y, 0, 0, 4);
         quarter(y, 1, 3, 4);
         quarter(y, 0, 1, 4);
@@ -197,7 +189,7 @@ public final class TransposeFaultsTest {
 
     /** One voice leaps an octave, so that the distance stays the same, and the other one stays. */
     private static void parallelLeaps() {
-        ScorePress x = withVoices(2);
+        ScorePress x = Check.withVoices(2);
         int[][] octaves = {{4, 4}, {5, 4}, {4, 4}, {4, 5}, {4, 4}, {5, 3}, {4, 4}};
         for (int[] o : octaves) {
             quarter(x, 0, 0, o[0]);
@@ -213,7 +205,7 @@ public final class TransposeFaultsTest {
     }
 
     private static void parallelsOfTiesAndRests() {
-        ScorePress x = withVoices(2);
+        ScorePress x = Check.withVoices(2);
         quarter(x, 0, 0, 4);
         quarter(x, 1, 4, 4);
         x.addRest(0, 4, 0);
@@ -226,7 +218,7 @@ public final class TransposeFaultsTest {
         quarter(x, 1, 6, 4);
         CHECK.same("a note of each must begin", 2, x.faults());
 
-        ScorePress y = withVoices(2);
+        ScorePress y = Check.withVoices(2);
         quarter(y, 0, 0, 4);
         y.addNote(1, 4, 0, 4, 0, 4, true);
         quarter(y, 0, 2, 4);
@@ -237,7 +229,7 @@ public final class TransposeFaultsTest {
     }
 
     private static void parallelsOfPairs() {
-        ScorePress x = withVoices(4);
+        ScorePress x = Check.withVoices(4);
         for (int v = 0; v < 4; v++) {
             quarter(x, v, 0, v + 1);
             quarter(x, v, 1, v + 1);
@@ -250,7 +242,7 @@ public final class TransposeFaultsTest {
 
     private static void interval() {
         CHECK.promise("Promise 17");
-        ScorePress x = withVoices(3);
+        ScorePress x = Check.withVoices(3);
         quarter(x, 0, 0, 4);
         x.addRest(0, 4, 0);
         quarter(x, 0, 4, 4);
