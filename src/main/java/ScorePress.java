@@ -350,6 +350,7 @@ public final class ScorePress {
         }
         d = d * 31 + faults();
         d = d * 31 + countEvents();
+        refreshEvents();
         return digestEvents(d);
     }
 
@@ -566,7 +567,6 @@ public final class ScorePress {
     }
 
     private long digestEvents(long start) {
-        refreshEvents();
         long d = start;
         int count = countEvents();
         for (int i = 0; i < count; i++) {

@@ -8,7 +8,7 @@ final class Check {
     private int wrong = 0;
     private String promise = "";
 
-    /** Names the promise that the next checks belong to. */
+    /** Names the promise, or the sentence of the document, that the next checks belong to. */
     void promise(String name) {
         promise = name;
     }
@@ -38,6 +38,14 @@ final class Check {
         asked++;
         if (!due.equals(got)) {
             tell(what + " answered " + got + ", due is " + due);
+        }
+    }
+
+    /** Asks one number of all elements of the voice 0. */
+    void row(ScorePress x, String name, int what, int... due) {
+        same(name + ": elements of the voice", due.length, x.voice(0, 0));
+        for (int i = 0; i < due.length && i < x.voice(0, 0); i++) {
+            same(name + ": element(0, " + i + ", " + what + ")", due[i], x.element(0, i, what));
         }
     }
 

@@ -2,32 +2,24 @@
 public final class ElementsTest {
     private static final Check CHECK = new Check();
 
-    /** Asks one number of all elements of the voice 0. */
-    private static void row(ScorePress x, String name, int what, int... due) {
-        CHECK.same("elements of the voice", due.length, x.voice(0, 0));
-        for (int i = 0; i < due.length; i++) {
-            CHECK.same(name + ": element(0, " + i + ", " + what + ")", due[i], x.element(0, i, what));
-        }
-    }
-
     private static void addNote() {
         CHECK.promise("Promise 8");
         ScorePress x = Check.withVoices(2);
         CHECK.same("a note up to the bar's end", 1, x.addNote(0, 1, 0, 0, 0, 4, true));
         CHECK.same("a note in its bar", 1, x.addNote(0, 2, 2, 6, -1, 4, false));
         CHECK.same("the voice 1 stays empty", 0, x.voice(1, 0));
-        row(x, "beginning", 0, 0, 384);
-        row(x, "tied", 5, 1, 0);
-        row(x, "tone", 4, 48, 58);
+        CHECK.row(x, "beginning", 0, 0, 384);
+        CHECK.row(x, "tied", 5, 1, 0);
+        CHECK.row(x, "tone", 4, 48, 58);
         // 48 ticks are left in the bar: 48, then the bar of 384, then 240 as 192 and 48.
         CHECK.same("a note over three bars", 4, x.addNote(0, 1, 2, 3, 1, 5, false));
-        row(x, "beginnings", 0, 0, 384, 720, 768, 1152, 1344);
-        row(x, "ticks", 1, 384, 336, 48, 384, 192, 48);
-        row(x, "parts", 2, 1, 2, 8, 1, 2, 8);
-        row(x, "dots", 3, 0, 2, 0, 0, 0, 0);
-        row(x, "tones", 4, 48, 58, 66, 66, 66, 66);
-        row(x, "tied", 5, 1, 0, 1, 1, 1, 0);
-        row(x, "bars", 6, 0, 1, 1, 2, 3, 3);
+        CHECK.row(x, "beginnings", 0, 0, 384, 720, 768, 1152, 1344);
+        CHECK.row(x, "ticks", 1, 384, 336, 48, 384, 192, 48);
+        CHECK.row(x, "parts", 2, 1, 2, 8, 1, 2, 8);
+        CHECK.row(x, "dots", 3, 0, 2, 0, 0, 0, 0);
+        CHECK.row(x, "tones", 4, 48, 58, 66, 66, 66, 66);
+        CHECK.row(x, "tied", 5, 1, 0, 1, 1, 1, 0);
+        CHECK.row(x, "bars", 6, 0, 1, 1, 2, 3, 3);
         CHECK.same("end", 1392, x.voice(0, 1));
         cutPieces();
         wrongNotes();
@@ -39,29 +31,29 @@ public final class ElementsTest {
         x.setBars(1, 8);
         x.addRest(0, 32, 0);
         CHECK.same("cut in bars of 48", 3, x.addNote(0, 4, 0, 1, 0, 4, true));
-        row(x, "ticks", 1, 12, 36, 48, 12);
-        row(x, "parts", 2, 32, 16, 8, 32);
-        row(x, "dots", 3, 0, 1, 0, 0);
-        row(x, "tied", 5, 0, 1, 1, 1);
+        CHECK.row(x, "ticks", 1, 12, 36, 48, 12);
+        CHECK.row(x, "parts", 2, 32, 16, 8, 32);
+        CHECK.row(x, "dots", 3, 0, 1, 0, 0);
+        CHECK.row(x, "tied", 5, 0, 1, 1, 1);
         ScorePress y = Check.withVoices(1);
         // 12 * 48 = 576 ticks: a whole note with a dot fits exactly, one with two dots does not.
         y.setBars(12, 8);
         CHECK.same("a bar filled by one element", 1, y.addNote(0, 1, 1, 0, 0, 4, false));
         CHECK.same("a bar and 96", 2, y.addNote(0, 1, 2, 0, 0, 4, false));
-        row(y, "ticks", 1, 576, 576, 96);
+        CHECK.row(y, "ticks", 1, 576, 576, 96);
         ScorePress z = Check.withVoices(1);
         z.setBars(5, 4);
         z.addRest(0, 2, 0);
         z.addRest(0, 16, 0);
         // 264 of 480 are left in the bar: 192 and 72; then 312: 288 and 24.
         CHECK.same("greatest values, with their dots", 4, z.addNote(0, 1, 1, 0, 0, 4, false));
-        row(z, "ticks", 1, 192, 24, 192, 72, 288, 24);
+        CHECK.row(z, "ticks", 1, 192, 24, 192, 72, 288, 24);
         ScorePress w = Check.withVoices(1);
         w.setBars(5, 8);
         // 240 in a bar: 192 and 48; then 144 as one value with a dot.
         CHECK.same("pieces ahead of the bar's end", 3, w.addNote(0, 1, 0, 0, 0, 4, false));
-        row(w, "ticks", 1, 192, 48, 144);
-        row(w, "dots", 3, 0, 0, 1);
+        CHECK.row(w, "ticks", 1, 192, 48, 144);
+        CHECK.row(w, "dots", 3, 0, 0, 1);
     }
 
     private static void wrongNotes() {
@@ -127,12 +119,12 @@ public final class ElementsTest {
         x.setBars(3, 8);
         CHECK.same("a rest", 1, x.addRest(0, 8, 0));
         CHECK.same("a rest that is cut", 3, x.addRest(0, 2, 1));
-        row(x, "beginnings", 0, 0, 48, 144, 288);
-        row(x, "ticks", 1, 48, 96, 144, 48);
-        row(x, "tones", 4, -1, -1, -1, -1);
-        row(x, "tied", 5, 0, 0, 0, 0);
-        row(x, "shown", 7, 0, 0, 0, 0);
-        row(x, "beams", 8, -1, -1, -1, -1);
+        CHECK.row(x, "beginnings", 0, 0, 48, 144, 288);
+        CHECK.row(x, "ticks", 1, 48, 96, 144, 48);
+        CHECK.row(x, "tones", 4, -1, -1, -1, -1);
+        CHECK.row(x, "tied", 5, 0, 0, 0, 0);
+        CHECK.row(x, "shown", 7, 0, 0, 0, 0);
+        CHECK.row(x, "beams", 8, -1, -1, -1, -1);
         long before = x.digest();
         CHECK.index("no voice", () -> x.addRest(1, 4, 0));
         CHECK.index("no voice below 0", () -> x.addRest(-1, 4, 0));
@@ -259,7 +251,7 @@ public final class ElementsTest {
         x.addNote(0, 4, 0, 6, -1, 4, false);
         x.addNote(0, 4, 0, 6, -2, 4, false);
         x.addNote(0, 4, 0, 5, 1, 4, false); // the same tone as B flat, but another step
-        row(x, "shown", 7, 0, 1, 0, 1, 1, 1, 0, 0, 0, 1, 1, 1);
+        CHECK.row(x, "shown", 7, 0, 1, 0, 1, 1, 1, 0, 0, 0, 1, 1, 1);
         CHECK.same("voice(0, 4)", 7, x.voice(0, 4));
     }
 
@@ -271,9 +263,9 @@ public final class ElementsTest {
         x.addNote(0, 8, 0, 0, 1, 4, false); // the sign of a joined note holds
         x.addNote(0, 8, 0, 1, -1, 4, true); // holds behind the joined note
         x.addNote(0, 8, 0, 1, 0, 4, false); // tied, but not joined
-        row(x, "shown", 7, 0, 1, 0, 0, 0, 0, 1);
+        CHECK.row(x, "shown", 7, 0, 1, 0, 0, 0, 0, 1);
         x.tie(0, 1, false);
-        row(x, "shown without the tie", 7, 0, 1, 1, 0, 0, 0, 1);
+        CHECK.row(x, "shown without the tie", 7, 0, 1, 1, 0, 0, 0, 1);
     }
 
     private static void beams() {
@@ -293,11 +285,11 @@ public final class ElementsTest {
         x.addNote(0, 16, 1, 0, 0, 4, false);
         x.addNote(0, 8, 0, 0, 0, 4, false);
         x.addNote(0, 32, 0, 0, 0, 4, false);
-        row(x, "beams", 8, 0, 0, -1, -1, 1, 1, 2, 2, -1, 3, 3, -1, 4, 4, 4);
+        CHECK.row(x, "beams", 8, 0, 0, -1, -1, 1, 1, 2, 2, -1, 3, 3, -1, 4, 4, 4);
         CHECK.same("voice(0, 3)", 5, x.voice(0, 3));
         x.removeLast(0);
         x.removeLast(0);
-        row(x, "beams then", 8, 0, 0, -1, -1, 1, 1, 2, 2, -1, 3, 3, -1, -1);
+        CHECK.row(x, "beams then", 8, 0, 0, -1, -1, 1, 1, 2, 2, -1, 3, 3, -1, -1);
         CHECK.same("voice(0, 3) then", 4, x.voice(0, 3));
     }
 
@@ -309,20 +301,20 @@ public final class ElementsTest {
         }
         x.addNote(0, 16, 0, 0, 0, 4, false);
         x.addNote(0, 16, 0, 0, 0, 4, false);
-        row(x, "beams in beats of 48", 8, -1, -1, -1, -1, 0, 0);
+        CHECK.row(x, "beams in beats of 48", 8, -1, -1, -1, -1, 0, 0);
         ScorePress y = Check.withVoices(1);
         y.setBars(1, 2); // beats of 192, one in a bar
         for (int i = 0; i < 6; i++) {
             y.addNote(0, 8, 0, 0, 0, 4, true);
         }
-        row(y, "beams in bars of one beat", 8, 0, 0, 0, 0, 1, 1);
+        CHECK.row(y, "beams in bars of one beat", 8, 0, 0, 0, 0, 1, 1);
         ScorePress z = Check.withVoices(1);
         z.setBars(2, 2);
         z.addNote(0, 8, 0, 0, 0, 4, false);
         z.addNote(0, 4, 0, 0, 0, 4, false); // parts two groups in one beat
         z.addNote(0, 8, 0, 0, 0, 4, false);
         z.addNote(0, 8, 0, 0, 0, 4, false);
-        row(z, "beams parted by a longer note", 8, -1, -1, -1, -1);
+        CHECK.row(z, "beams parted by a longer note", 8, -1, -1, -1, -1);
     }
 
     private static void pitch() {

@@ -138,12 +138,12 @@ public final class ScoreTest {
 
     private static void ticks() {
         CHECK.promise("Promise 7");
-        ScorePress x = new ScorePress();
         int[][] values = {
             {1, 0, 384}, {1, 1, 576}, {1, 2, 672}, {2, 0, 192}, {2, 1, 288}, {2, 2, 336},
             {4, 0, 96}, {4, 1, 144}, {4, 2, 168}, {8, 0, 48}, {8, 1, 72}, {8, 2, 84},
             {16, 0, 24}, {16, 1, 36}, {32, 0, 12}};
         for (int part = -2; part <= 70; part++) {
+            ScorePress x = new ScorePress();
             for (int dots = -2; dots <= 4; dots++) {
                 String due = "IllegalArgumentException";
                 for (int[] value : values) {
@@ -154,6 +154,7 @@ public final class ScoreTest {
                 CHECK.sameText("ticks(" + p + ", " + d + ")", due, Check.outcome(() -> x.ticks(p, d)));
             }
         }
+        ScorePress x = new ScorePress();
         CHECK.argument("ticks of far numbers", () -> x.ticks(Integer.MIN_VALUE, Integer.MIN_VALUE));
         CHECK.argument("ticks of far dots", () -> x.ticks(4, Integer.MAX_VALUE));
     }
