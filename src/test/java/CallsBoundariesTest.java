@@ -8,13 +8,6 @@ public final class CallsBoundariesTest {
         x.addNote(voice, part, 0, step, sign, octave, false);
     }
 
-    private static void pitchIs(ScorePress x, int voice, int element, int step, int sign, int octave) {
-        String name = "pitch(" + voice + ", " + element + ", ";
-        CHECK.same(name + "0)", step, x.pitch(voice, element, 0));
-        CHECK.same(name + "1)", sign, x.pitch(voice, element, 1));
-        CHECK.same(name + "2)", octave, x.pitch(voice, element, 2));
-    }
-
     private static void voiceIs(ScorePress x, int voice, int... due) {
         for (int what = 0; what < due.length; what++) {
             CHECK.same("voice(" + voice + ", " + what + ")", due[what], x.voice(voice, what));
@@ -54,12 +47,12 @@ public final class CallsBoundariesTest {
         note(x, 0, 4, 3, 0, 4);
         note(x, 0, 4, 6, -2, 8);
         CHECK.same("setKey(7)", 0, x.setKey(7));
-        pitchIs(x, 0, 0, 3, 0, 4);
-        pitchIs(x, 0, 1, 6, -2, 8);
+        CHECK.pitchIs(x, 0, 0, 3, 0, 4);
+        CHECK.pitchIs(x, 0, 1, 6, -2, 8);
         CHECK.row(x, "tones", 4, 53, 105);
         CHECK.row(x, "shown", 7, 1, 1);
         CHECK.same("setKey(-7)", 7, x.setKey(-7));
-        pitchIs(x, 0, 0, 3, 0, 4);
+        CHECK.pitchIs(x, 0, 0, 3, 0, 4);
         CHECK.same("setKey(0)", -7, x.setKey(0));
         CHECK.row(x, "shown in the first key", 7, 0, 1);
     }
@@ -183,9 +176,9 @@ public final class CallsBoundariesTest {
         note(x, 0, 4, 1, -2, 0);
         note(x, 0, 4, 0, 0, 0);
         note(x, 0, 4, 6, 2, 8);
-        pitchIs(x, 0, 0, 1, -2, 0);
-        pitchIs(x, 0, 1, 0, 0, 0);
-        pitchIs(x, 0, 2, 6, 2, 8);
+        CHECK.pitchIs(x, 0, 0, 1, -2, 0);
+        CHECK.pitchIs(x, 0, 1, 0, 0, 0);
+        CHECK.pitchIs(x, 0, 2, 6, 2, 8);
     }
 
     private static void tonesWithoutNotes() {
@@ -212,15 +205,15 @@ public final class CallsBoundariesTest {
         note(x, 0, 4, 5, 0, 4);
         note(x, 1, 4, 0, 0, 4);
         x.transpose(1, 2);
-        pitchIs(x, 0, 0, 0, 1, 5);
-        pitchIs(x, 0, 1, 6, 0, 4);
+        CHECK.pitchIs(x, 0, 0, 0, 1, 5);
+        CHECK.pitchIs(x, 0, 1, 6, 0, 4);
         x.transpose(-1, -2);
         x.transpose(-1, -2);
-        pitchIs(x, 1, 0, 6, -1, 3);
-        pitchIs(x, 0, 1, 4, 0, 4);
+        CHECK.pitchIs(x, 1, 0, 6, -1, 3);
+        CHECK.pitchIs(x, 0, 1, 4, 0, 4);
         x.transpose(8, 14);
-        pitchIs(x, 1, 0, 0, 0, 5);
-        pitchIs(x, 0, 0, 6, 0, 5);
+        CHECK.pitchIs(x, 1, 0, 0, 0, 5);
+        CHECK.pitchIs(x, 0, 0, 6, 0, 5);
     }
 
     private static void farTransposing() {
@@ -229,11 +222,11 @@ public final class CallsBoundariesTest {
         note(x, 0, 4, 0, 0, 0);
         note(x, 0, 4, 6, 2, 6);
         CHECK.same("transpose(14, 24)", 0, x.transpose(14, 24));
-        pitchIs(x, 0, 0, 0, 0, 2);
-        pitchIs(x, 0, 1, 6, 2, 8);
+        CHECK.pitchIs(x, 0, 0, 0, 0, 2);
+        CHECK.pitchIs(x, 0, 1, 6, 2, 8);
         CHECK.same("transpose(-14, -24)", 0, x.transpose(-14, -24));
-        pitchIs(x, 0, 0, 0, 0, 0);
-        pitchIs(x, 0, 1, 6, 2, 6);
+        CHECK.pitchIs(x, 0, 0, 0, 0, 0);
+        CHECK.pitchIs(x, 0, 1, 6, 2, 6);
         CHECK.same("transpose(0, 0)", 0, x.transpose(0, 0));
         CHECK.row(x, "tones", 4, 0, 85);
     }
@@ -258,10 +251,10 @@ public final class CallsBoundariesTest {
         note(x, 0, 4, 0, -2, 4);
         x.setKey(-3);
         CHECK.same("transpose(0, 1)", 4, x.transpose(0, 1));
-        pitchIs(x, 0, 0, 0, 2, 4);
-        pitchIs(x, 0, 1, 0, -1, 4);
+        CHECK.pitchIs(x, 0, 0, 0, 2, 4);
+        CHECK.pitchIs(x, 0, 1, 0, -1, 4);
         CHECK.same("transpose(0, -1)", -3, x.transpose(0, -1));
-        pitchIs(x, 0, 1, 0, -2, 4);
+        CHECK.pitchIs(x, 0, 1, 0, -2, 4);
     }
 
     private static void nothingToTranspose() {
@@ -273,7 +266,7 @@ public final class CallsBoundariesTest {
         CHECK.row(x, "tones", 4, -1, -1, -1);
         note(x, 2, 4, 0, 0, 4);
         CHECK.same("transpose(-4, -7)", 0, x.transpose(-4, -7));
-        pitchIs(x, 2, 0, 3, 0, 3);
+        CHECK.pitchIs(x, 2, 0, 3, 0, 3);
     }
 
     // ---- intervals

@@ -49,6 +49,14 @@ final class Check {
         }
     }
 
+    /** Asks the three numbers of a note's pitch. */
+    void pitchIs(ScorePress x, int voice, int element, int step, int sign, int octave) {
+        String name = "pitch(" + voice + ", " + element + ", ";
+        same(name + "0)", step, x.pitch(voice, element, 0));
+        same(name + "1)", sign, x.pitch(voice, element, 1));
+        same(name + "2)", octave, x.pitch(voice, element, 2));
+    }
+
     /** The class must be this one itself: the machine throws classes below it. */
     void fails(String what, Class<? extends RuntimeException> due, Call call) {
         sameText(what, due.getSimpleName(), outcome(call));

@@ -196,6 +196,22 @@ public final class MusicBoundariesTest {
         CHECK.row(x, "shown", 7, 1, 1, 1, 1, 0, 1, 1, 0);
     }
 
+    private static void signsOfEdges() {
+        CHECK.promise("Each step of each octave: the least and the greatest one, also when more is added");
+        ScorePress x = Check.withVoices(1);
+        x.addNote(0, 4, 0, 0, 1, 0, false);
+        CHECK.row(x, "the first note", 7, 1);
+        x.addNote(0, 4, 0, 6, 1, 8, false);
+        CHECK.row(x, "the second note", 7, 1, 1);
+        x.addNote(0, 2, 0, 6, 1, 8, false);
+        x.addNote(0, 4, 0, 0, 1, 0, false);
+        x.addNote(0, 4, 0, 6, 1, 8, false);
+        CHECK.row(x, "in two bars", 7, 1, 1, 0, 1, 1);
+        x.setKey(7);
+        CHECK.row(x, "the signs of the key 7", 7, 0, 0, 0, 0, 0);
+        CHECK.same("no signs", 0, x.voice(0, 4));
+    }
+
     private static void signsOfVoices() {
         CHECK.promise("In a voice: a sign of one voice does not hold in another one");
         ScorePress x = Check.withVoices(2);
@@ -338,7 +354,7 @@ public final class MusicBoundariesTest {
     // ---- faults: bars and ties
 
     private static void noBars() {
-        CHECK.promise("Bars that it does not fill, of those ahead of the last bar in which any voice has an element: none");
+        CHECK.promise("Of those ahead of the last bar in which any voice has an element: there is none");
         CHECK.same("without voices", 0, new ScorePress().faults());
         ScorePress x = Check.withVoices(4);
         CHECK.same("without elements", 0, x.faults());
@@ -445,6 +461,22 @@ public final class MusicBoundariesTest {
         CHECK.same("0, 3, 0: the eighth of one voice alone is no pair", 0, z.faults());
     }
 
+    private static void noteOfOneVoice() {
+        CHECK.promise("Each tick at which a note of each of them begins: not where one of them alone begins");
+        ScorePress x = inBars(2, 1, 2);
+        x.addNote(0, 8, 0, 0, 0, 4, false);
+        x.addNote(0, 8, 0, 1, 0, 4, false);
+        tones(x, 0, 52);
+        tones(x, 1, 60, 64);
+        CHECK.same("two notes of a against one of b", 1, x.faults());
+        ScorePress y = inBars(2, 1, 2);
+        tones(y, 0, 48, 52);
+        y.addNote(1, 8, 0, 0, 0, 5, false);
+        y.addNote(1, 8, 0, 1, 0, 5, false);
+        tones(y, 1, 64);
+        CHECK.same("two notes of b against one of a", 1, y.faults());
+    }
+
     private static void distances() {
         CHECK.promise("The tone of b less that of a, by the remainder of 12, is the same for both pairs, and 0 or 7");
         for (int distance = -24; distance <= 24; distance++) {
@@ -528,6 +560,7 @@ public final class MusicBoundariesTest {
         signsOfBars();
         signsBehindNotes();
         signsOfOctaves();
+        signsOfEdges();
         signsOfVoices();
         signsOfRests();
         signsOfJoinedNotes();
@@ -545,6 +578,7 @@ public final class MusicBoundariesTest {
         looseTies();
         firstTick();
         earlierPair();
+        noteOfOneVoice();
         distances();
         distancesWrapped();
         otherDistances();

@@ -482,7 +482,7 @@ public final class RefusedCallsTest {
     }
 
     private static void firstOfTheRest() {
-        CHECK.promise("If several exceptions apply, the one that is named first is thrown: removeLast, tie, pitch, interval");
+        CHECK.promise("If several exceptions apply, the one that is named first is thrown: tie, pitch, interval");
         CALLS.index("removeLast: voice, with empty voices", RefusedCallsTest::withoutElements, x -> x.removeLast(2));
         CALLS.index("tie: voice, with the number of a rest", RefusedCallsTest::small, x -> x.tie(2, 2, true));
         CALLS.index("pitch: what, of a rest", RefusedCallsTest::small, x -> x.pitch(0, 2, 3));

@@ -7,13 +7,6 @@ public final class TransposeFaultsTest {
         x.addNote(voice, 4, 0, step, 0, octave, false);
     }
 
-    private static void pitchIs(ScorePress x, int voice, int element, int step, int sign, int octave) {
-        String name = "pitch(" + voice + ", " + element + ", ";
-        CHECK.same(name + "0)", step, x.pitch(voice, element, 0));
-        CHECK.same(name + "1)", sign, x.pitch(voice, element, 1));
-        CHECK.same(name + "2)", octave, x.pitch(voice, element, 2));
-    }
-
     private static void transpose() {
         CHECK.promise("Promise 15");
         ScorePress x = Check.withVoices(2);
@@ -21,25 +14,25 @@ public final class TransposeFaultsTest {
         x.addRest(0, 4, 0);
         x.addNote(1, 1, 1, 2, -1, 3, false);
         CHECK.same("a second up", 2, x.transpose(1, 2));
-        pitchIs(x, 0, 0, 0, 1, 5);
-        pitchIs(x, 1, 0, 3, 0, 3);
-        pitchIs(x, 1, 1, 3, 0, 3);
+        CHECK.pitchIs(x, 0, 0, 0, 1, 5);
+        CHECK.pitchIs(x, 1, 0, 3, 0, 3);
+        CHECK.pitchIs(x, 1, 1, 3, 0, 3);
         CHECK.same("the tone", 61, x.element(0, 0, 4));
         CHECK.same("the rest", -1, x.element(0, 1, 4));
         CHECK.same("the sign of the key is not shown", 0, x.element(0, 0, 7));
         CHECK.same("F is shown in the key 2", 1, x.element(1, 0, 7));
         CHECK.same("a fifth down", 1, x.transpose(-4, -7));
-        pitchIs(x, 0, 0, 3, 1, 4);
-        pitchIs(x, 1, 0, 6, -1, 2);
+        CHECK.pitchIs(x, 0, 0, 3, 1, 4);
+        CHECK.pitchIs(x, 1, 0, 6, -1, 2);
         CHECK.same("score(2)", 1, x.score(2));
         CHECK.same("two octaves up", 1, x.transpose(14, 24));
-        pitchIs(x, 0, 0, 3, 1, 6);
+        CHECK.pitchIs(x, 0, 0, 3, 1, 6);
         CHECK.same("two octaves down", 1, x.transpose(-14, -24));
         CHECK.same("nothing", 1, x.transpose(0, 0));
-        pitchIs(x, 0, 0, 3, 1, 4);
+        CHECK.pitchIs(x, 0, 0, 3, 1, 4);
         x.setKey(5);
         CHECK.same("the same tones by the next steps", -7, x.transpose(1, 0));
-        pitchIs(x, 0, 0, 4, -1, 4);
+        CHECK.pitchIs(x, 0, 0, 4, -1, 4);
         CHECK.same("the tone stays", 54, x.element(0, 0, 4));
         wrongTransposing();
         keysAtTheEdge();
@@ -81,7 +74,7 @@ public final class TransposeFaultsTest {
         x.removeLast(1);
         x.addNote(1, 4, 0, 6, 1, 7, false);
         CHECK.same("a step into the octave 8", 2, x.transpose(1, 2));
-        pitchIs(x, 1, 0, 0, 2, 8);
+        CHECK.pitchIs(x, 1, 0, 0, 2, 8);
         x.removeLast(1);
         x.addRest(0, 4, 0);
         CHECK.same("rests can be transposed by all", 2, x.transpose(14, 24));
